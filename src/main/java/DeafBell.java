@@ -770,7 +770,7 @@ public final class DeafBell {
 
         private final int[] row = new int[MOST_BYTES];
         private final int[] stack = new int[MOST_BYTES];
-        private int[] tape = row;
+        private final int[] tape = new int[MOST_BYTES];
         private int size = 0;
         private int at = 0;
         private int written = 0;
@@ -779,8 +779,8 @@ public final class DeafBell {
 
         /** The text's row; null if it has a fault, which is where the reader stands then. */
         int[] read(int[] bytes, int n, String letters) {
-            tape = bytes;
-            size = Math.min(n, bytes.length);
+            size = Math.min(n, Math.min(bytes.length, tape.length));
+            System.arraycopy(bytes, 0, tape, 0, size);
             names = letters;
             at = 0;
             written = 0;
@@ -1194,12 +1194,10 @@ public final class DeafBell {
     }
 
     private static class Eager extends Pupil {
-        @Override
         int thinks(int m, int fog, int wind) {
             return Math.max(0, super.thinks(m, fog, wind) - m);
         }
 
-        @Override
         int hears(Acting who, int x) {
             who.began(20);
             return super.hears(who, x) - waits(who, 1);
@@ -1207,12 +1205,10 @@ public final class DeafBell {
     }
 
     private static class Late extends Pupil {
-        @Override
         int thinks(int m, int fog, int wind) {
             return super.thinks(m, fog, wind) + m;
         }
 
-        @Override
         int calls(Acting who, int x) {
             who.began(30);
             return super.calls(who, x) * 3;
@@ -1220,17 +1216,14 @@ public final class DeafBell {
     }
 
     private static class Master extends Pupil {
-        @Override
         int thinks(int m, int fog, int wind) {
             return 1;
         }
 
-        @Override
         int carry(int word, int m, int wind) {
             return 10;
         }
 
-        @Override
         int waits(Acting who, int x) {
             who.began(40);
             return -super.waits(who, x);
@@ -1238,22 +1231,18 @@ public final class DeafBell {
     }
 
     private static final class Guesser extends Eager {
-        @Override
         int thinks(int m, int fog, int wind) {
             return super.thinks(m, fog, wind) + (fog != 0 ? 1 : 0);
         }
 
-        @Override
         int carry(int word, int m, int wind) {
             return super.carry(word, m, wind) - m / 3;
         }
 
-        @Override
         int answer(int word, int given, int m) {
             return (super.answer(word, given, m) + m) % WORDS;
         }
 
-        @Override
         int hears(Acting who, int x) {
             who.began(50);
             return super.hears(who, x + 1);
@@ -1261,17 +1250,14 @@ public final class DeafBell {
     }
 
     private static final class Hoarse extends Late {
-        @Override
         int thinks(int m, int fog, int wind) {
             return super.thinks(m, fog, wind) + wind;
         }
 
-        @Override
         int carry(int word, int m, int wind) {
             return super.carry(word, m, wind) / 2;
         }
 
-        @Override
         int tells(Acting who, int x) {
             who.began(60);
             return super.tells(who, x) - calls(who, 2);
@@ -1279,28 +1265,23 @@ public final class DeafBell {
     }
 
     private static final class Deaf extends Master {
-        @Override
         int thinks(int m, int fog, int wind) {
             return 2 * super.thinks(m, fog, wind) + m;
         }
 
-        @Override
         int carry(int word, int m, int wind) {
             return super.carry(word, m, wind) - wind;
         }
 
-        @Override
         int answer(int word, int given, int m) {
             return word;
         }
 
-        @Override
         int waits(Acting who, int x) {
             who.began(70);
             return super.waits(who, x) ^ who.n;
         }
 
-        @Override
         int tells(Acting who, int x) {
             who.began(71);
             return hears(who, x) - super.tells(who, x);

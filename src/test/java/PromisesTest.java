@@ -376,7 +376,8 @@ public final class PromisesTest {
     due(x.law(2, 0, 0, 0, 0), BEYOND);
     due(x.law(-1, 0, 0, 0, 0), BEYOND);
     Object[][] values = {{"2+3*2", 8}, {"(2+1)*3", 9}, {"9-3-2", 4}, {"7/2*2", 6}, {"7%4*2", 6}, {"1/0", 0}, {"5%0", 0}, {"w/f", -3},
-      {"w%f", -1}, {"w/(0-1)", 7}, {"3<5", 1}, {"5<3", 0}, {"5>3", 1}, {"3=3", 1}, {"3|0", 1}, {"0|0", 0}, {"3&5", 1}, {"3&0", 0},
+      {"w%f", -1}, {"w/(0-1)", 7}, {"3<5", 1}, {"5<3", 0}, {"3<3", 0}, {"5>3", 1}, {"3>5", 0},
+      {"3>3", 0}, {"3=3", 1}, {"3=4", 0}, {"(0|3)", 1}, {"3|0", 1}, {"0|0", 0}, {"3&5", 1}, {"3&0", 0},
       {"!0", 1}, {"!7", 0}, {"!!7", 1}, {"1|0&0", 1}, {"2<3+4", 1}, {"2=2&3=3", 1}, {"99", 10}, {"0-99", -10}, {"w", -7}, {"f", 2},
       {"i", 3}, {"k", 4}, {"!w+1", 1}, {"1+1&0", 0}, {"8-(3-2)", 7}, {"9999*9999*30>0", 0}, {"9/2", 4}};
     for (Object[] v : values) {
@@ -531,6 +532,11 @@ public final class PromisesTest {
     x.seconds(199);
     x.shout(0, 4);
     due(x.then(18, 2), 1);
+    // nothing is drawn for: what carries 4 isn't heard, what carries 5 is
+    x.become(0, 50);
+    due(x.then(50, 0), 1);
+    due(text(0, "1"), 1);
+    due(x.then(50, 0), 2);
     due(x.count(9), 1);
   }
 
@@ -600,6 +606,13 @@ public final class PromisesTest {
     due(x.poem(0, 0), 3);
     due(x.poem(0, 1), 38);
     sheet(0, 16, 2, 0, -1, 0, 0, 1000, 0, -1, 1, 999, 0);
+    due(x.poem(0, 1), 41);
+    sheet(0, 16, 1, 999, 1, 999);
+    due(x.poem(0, 1), 0);
+    sheet(0, 16, 1, 1000, 1, 1000, 2, 9, 2, 9);
+    due(x.poem(0, 1), 41);
+    // a number without another one is no two
+    sheet(0, 16, 0, 0, 0);
     due(x.poem(0, 1), 41);
     // the thirteenth line doesn't count
     due(x.sheet(0, 16, 26), 1);
