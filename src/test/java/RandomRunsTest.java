@@ -13,7 +13,7 @@ public final class RandomRunsTest {
   private static final String[] LIKELY = {"air", "person", "ofVoice", "carries", "says", "go", "become", "as", "shout", "shout",
     "shout", "ofShout", "lead", "taught", "forget", "TEXT", "TEXT", "BAD", "law", "law", "seconds", "seconds", "seconds", "loose",
     "loose", "then", "thenShout", "lesson", "poem", "heard", "often", "over", "seed", "voice", "trace", "sheet", "PUTS", "PUTS",
-    "put", "move", "image", "restore", "tell", "TELLS", "check", "count", "told", "feed", "text", "VOICES"};
+    "put", "move", "image", "restore", "tell", "TELLS", "check", "count", "told", "feed", "text", "VOICES", "BURST"};
 
   private final Random random;
   private final Map<String, Method> ours = new HashMap<>();
@@ -112,6 +112,7 @@ public final class RandomRunsTest {
       case "ofVoice": call(name, person, near(0, 3)); break;
       case "carries": case "says": call(name, person, word); break;
       case "shout": call(name, person, random.nextInt(4) > 0 ? any(0, 19) * 2 : word); break;
+      case "BURST": burst(); break;
       case "go": call(name, person, near(0, 1)); break;
       case "become": call(name, person, near(0, 69)); break;
       case "as": call(name, person, near(0, 6)); break;
@@ -150,6 +151,20 @@ public final class RandomRunsTest {
       case "told": call(name, near(1, 5)); break;
       default: throw new IllegalStateException(name);
     }
+  }
+
+  /** So many questions at once that what is DUE, or the SHOUTS, may be full. */
+  private void burst() {
+    int voices = twin.now.voices.size();
+    if (voices == 0) return;
+    if (twin.now.shouts.size() > 26) call("forget");
+    for (int i = any(6, 18); i > 0; i--) call("shout", any(0, voices - 1), any(0, 19) * 2);
+    for (int i = any(1, 4); i > 0; i--) {
+      call(random.nextInt(3) == 0 ? "loose" : "seconds", any(1, 9));
+      call("count", 3);
+      call("then", any(0, 30), any(0, 2));
+    }
+    call("over", any(0, 60));
   }
 
   private void traceAll() {
