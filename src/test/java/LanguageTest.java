@@ -16,11 +16,8 @@ import java.util.regex.Pattern;
 
 /** The class's face, and those rules of LANGUAGE.md that can be looked up in its source and its classes. */
 public final class LanguageTest {
-  private static final String FACE = "air(int,int) person(int,int) ofVoice(int,int) carries(int,int) says(int,int) go(int,int) "
-    + "become(int,int) as(int,int) shout(int,int) ofShout(int,int) lead(int,int) taught() forget() feed(long,int) text(int) "
-    + "law(int,int,int,int,int) seconds(int) loose(int) then(int,int) thenShout(int,int,int) lesson(int) poem(int,int) "
-    + "heard(int,int) often(int,int,int) over(int) seed(int) voice(int,int,int) trace(int) sheet(int,int,int) put(int,int,int) "
-    + "move(int,int,int,int,int) image() restore() tell(int) check() count(int) told(int)";
+  private static final Path DOCUMENT = Path.of("../shared/DOC.md");
+  private static final Path SOURCE = Path.of("src/main/java/DeafBell.java");
   private static int wrong = 0;
 
   private static void wrong(String what) {
@@ -28,8 +25,17 @@ public final class LanguageTest {
     System.out.println(what);
   }
 
-  private static void face() {
-    Set<String> due = new TreeSet<>(Arrays.asList(FACE.split(" ")));
+  /** The calls as the document's face has them: name(types). */
+  private static Set<String> faceDue() throws IOException {
+    Set<String> due = new TreeSet<>();
+    Matcher calls = Pattern.compile("(?m)^    public int (\\w+)\\(([^)]*)\\);$").matcher(Files.readString(DOCUMENT));
+    while (calls.find()) due.add(calls.group(1) + "(" + calls.group(2).replaceAll(" \\w+(, |$)", "$1").replace(", ", ",") + ")");
+    if (due.size() != 37) wrong("the document's face has " + due.size() + " calls");
+    return due;
+  }
+
+  private static void face() throws IOException {
+    Set<String> due = faceDue();
     Set<String> has = new TreeSet<>();
     for (Method m : DeafBell.class.getDeclaredMethods()) {
       if (Modifier.isPrivate(m.getModifiers())) continue;
@@ -45,12 +51,30 @@ public final class LanguageTest {
     for (Field f : DeafBell.class.getDeclaredFields()) if (!Modifier.isPrivate(f.getModifiers())) wrong("rule 1: " + f);
   }
 
-  private static void classes() {
+  /** The calls stand in the document's order, and ahead of those that it tells stands what the interface says there. */
+  private static void order() throws IOException {
+    String source = Files.readString(SOURCE);
+    List<String> due = new ArrayList<>();
+    Matcher parts = Pattern.compile("(?m)^Ahead of the calls (.*) the interface says: (---- .*)\\.$").matcher(Files.readString(DOCUMENT));
+    while (parts.find()) {
+      due.add(parts.group(2));
+      for (String call : parts.group(1).split(", ")) due.add(call.replace("`", ""));
+    }
+    if (due.size() != 37 + 6) wrong("the document's interface has " + due.size() + " lines");
+    List<String> has = new ArrayList<>();
+    Matcher lines = Pattern.compile("(?m)^    (?:// (---- .*)|public int (\\w+)\\(.*)$").matcher(source);
+    while (lines.find()) has.add(lines.group(1) != null ? lines.group(1) : lines.group(2));
+    // what stands behind the last call is not the interface's
+    while (has.size() > due.size()) has.remove(has.size() - 1);
+    if (!has.equals(due)) wrong("the interface is " + has);
+  }
+
+  private static void classes() throws IOException {
     List<Class<?>> all = new ArrayList<>(Arrays.asList(DeafBell.class.getDeclaredClasses()));
     all.add(DeafBell.class);
     if (all.size() > 12) wrong("rule 11: " + all.size() + " classes");
     Set<String> names = new TreeSet<>();
-    for (String m : FACE.split(" ")) names.add(m.substring(0, m.indexOf('(')));
+    for (String m : faceDue()) names.add(m.substring(0, m.indexOf('(')));
     for (Class<?> c : all) {
       if (c != DeafBell.class && (!Modifier.isStatic(c.getModifiers()) || Modifier.isPublic(c.getModifiers()))) wrong("rule 2: " + c);
       int fields = 0;
@@ -69,7 +93,7 @@ public final class LanguageTest {
   }
 
   private static void source() throws IOException {
-    String source = Files.readString(Path.of("src/main/java/DeafBell.java"));
+    String source = Files.readString(SOURCE);
     for (char c : source.toCharArray()) if (c > 126 || c < 32 && c != '\n') wrong("rule 4: sign " + (int) c);
     String code = source.replaceAll("(?s)/\\*.*?\\*/", "").replaceAll("//[^\n]*", "").replaceAll("'\\\\?.'", "0").replaceAll("\"[^\"]*\"", "0");
     String[] barred = {"\\bthrow\\b", "\\bthrows\\b", "\\btry\\b", "\\bcatch\\b", "\\bsynchronized\\b", "\\bassert\\b", "->", "::",
@@ -125,6 +149,7 @@ public final class LanguageTest {
 
   public static void main(String[] args) throws IOException {
     face();
+    order();
     classes();
     source();
     room();
